@@ -79,6 +79,15 @@ public final class ActionsTest {
         due("3 comes anew", club.join(7), 2);
         due("3 anew has no readings", club.memberOf(2, 6), 0);
         due("3 anew has no bottles", club.memberOf(2, 5), 0);
+        BarometerClub again = clubOf(0, 1);
+        again.day(-20);
+        again.bottle(1);
+        again.wager(1, 968, 2);
+        again.read();
+        due("3 the bottle, and a reading won", again.memberOf(1, 5) * 10 + again.memberOf(1, 6), 11);
+        due("3 they leave, too", again.leave(1), 50);
+        again.join(1);
+        due("3 who comes anew has neither", again.memberOf(1, 5) * 10 + again.memberOf(1, 6), 0);
     }
 
     private static void promise4Move() {
@@ -178,6 +187,10 @@ public final class ActionsTest {
         poor.wager(0, 900, 4);
         Check.refused("7 lacking", poor, 5, 1, 0, () -> poor.tap(0));
         due("7 refused changes nothing", poor.memberOf(0, 4), 0);
+        poor.undo();
+        poor.wager(0, 900, 3);
+        due("7 for the only coin", poor.tap(0), 0);
+        due("7 none is left", poor.memberOf(0, 0), 0);
     }
 
     private static void promise8Day() {

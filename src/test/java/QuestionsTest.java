@@ -113,6 +113,11 @@ public final class QuestionsTest {
         far.day(10);
         far.wager(0, 700, 1);
         dueWinners("400 off", far, 1, 1);
+        BarometerClub near = clubOf(0, 1, 2);
+        near.wager(0, 1001, 1);
+        near.wager(1, 988, 1);
+        near.wager(2, 975, 1);
+        dueWinners("not off at all", near, 2, 3);
     }
 
     private static void dueWinners(String what, BarometerClub club, int set, int share) {
