@@ -417,21 +417,18 @@ public final class BarometerClub {
         }
 
         int of(int member, int what) {
-            return isCell(member, what) ? row[MEMBERS + member * TRAITS + what] : 0;
+            boolean isInside = member >= 0 && member < MOST_MEMBERS && what >= 0 && what < TRAITS;
+            return isInside ? row[MEMBERS + member * TRAITS + what] : 0;
         }
 
         void setOf(int member, int what, int number) {
-            if (isCell(member, what)) {
+            if (member >= 0 && member < MOST_MEMBERS && what >= 0 && what < TRAITS) {
                 row[MEMBERS + member * TRAITS + what] = number;
             }
         }
 
         void addOf(int member, int what, int number) {
             setOf(member, what, of(member, what) + number);
-        }
-
-        private static boolean isCell(int member, int what) {
-            return member >= 0 && member < MOST_MEMBERS && what >= 0 && what < TRAITS;
         }
 
         void copyTo(int[] rows, int from) {
@@ -1136,7 +1133,7 @@ public final class BarometerClub {
 
         private void addNumber(int number) {
             int unit = 1;
-            for (int digits = 1; digits < 10 && number / unit >= 10; digits++) {
+            for (int digits = 1; digits < 10 && unit <= number / 10; digits++) {
                 unit *= 10;
             }
             for (; unit > 0; unit /= 10) {

@@ -6,15 +6,25 @@ final class Check {
 
     private static int wrong = 0;
     private static int made = 0;
+    private static String about = "";
 
     private Check() {
+    }
+
+    /** What is looked at from now on: it is printed before each wrong answer. */
+    static void about(String what) {
+        about = what;
+    }
+
+    static int made() {
+        return made;
     }
 
     static void due(String what, Object got, Object want) {
         made++;
         if (!want.equals(got)) {
             wrong++;
-            System.out.println(what + ": answered " + got + ", due is " + want);
+            System.out.println(about + what + ": answered " + got + ", due is " + want);
         }
     }
 
