@@ -58,6 +58,17 @@ public final class AccountSentencesTest {
         }
     }
 
+    @Sentence(promise = 35, value = "Returns what part of those who have wagered has tapped, both numbers as floats.")
+    static void tappedShareBehindOneWhoLeft() {
+        BarometerClub club = Clubs.of(0, 1, 2);
+        club.wager(1, 900, 1);
+        club.wager(2, 900, 1);
+        club.tap(2);
+        club.leave(0);
+        due("one of two", club.tappedShare(), 0.5f);
+        due("who has tapped", Clubs.all(club, 4), "0 1");
+    }
+
     @Sentence(promise = 35, value = "Returns the part.")
     static void tappedShareReturns() {
         BarometerClub club = Clubs.of(0, 1);
@@ -211,29 +222,18 @@ public final class AccountSentencesTest {
         club.tap(0);
         club.wager(1, 900, 1);
         club.day(-20);
-        String before = told(club);
+        String before = State.ofAllThatCanBeUndone(club);
         club.save();
         Clubs.run(club, "b0;r;d+9;o1;x0;j9;m0>0;s0&1;w0=800/8;t0");
-        due("it is another club", told(club).equals(before), false);
+        due("it is another club", State.ofAllThatCanBeUndone(club).equals(before), false);
         club.restore();
-        due("all of it", told(club), before);
+        due("all of it", State.ofAllThatCanBeUndone(club), before);
         club.leave(club.join(9));
         due("save changes nothing that can be undone", club.save() * 10 + club.account(9), 22);
         club.undo();
         club.undo();
         club.restore();
         due("the later one", club.account(8) * 10 + club.account(9), 500);
-    }
-
-    private static String told(BarometerClub club) {
-        StringBuilder numbers = new StringBuilder(Clubs.weather(club));
-        for (int what = 0; what <= 6; what++) {
-            numbers.append(" | ").append(Clubs.all(club, what));
-        }
-        for (int what = 0; what <= 8; what++) {
-            numbers.append(" | ").append(club.account(what));
-        }
-        return numbers.toString();
     }
 
     @Sentence(promise = 38, value = "Returns how many members there are.")
@@ -251,17 +251,17 @@ public final class AccountSentencesTest {
         BarometerClub club = Clubs.of(3, 4);
         club.wager(1, 900, 1);
         club.save();
-        String before = told(club);
+        String before = State.ofAllThatCanBeUndone(club);
         for (int time = 0; time < 3; time++) {
             club.read();
             club.leave(0);
             club.day(20);
             club.restore();
-            due("time " + time, told(club), before);
+            due("time " + time, State.ofAllThatCanBeUndone(club), before);
             due("nothing can be undone", club.account(9), 0);
         }
         club.restore();
-        due("restored twice", told(club), before);
+        due("restored twice", State.ofAllThatCanBeUndone(club), before);
     }
 
     @Sentence(promise = 39, value = "Returns how many members there are.")

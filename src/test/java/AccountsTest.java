@@ -3,21 +3,13 @@ public final class AccountsTest {
     private static final Class<ArithmeticException> ARITHMETIC = ArithmeticException.class;
     private static final Class<IllegalStateException> STATE = IllegalStateException.class;
 
-    private static BarometerClub clubOf(int... heights) {
-        BarometerClub club = new BarometerClub();
-        for (int height : heights) {
-            club.join(height);
-        }
-        return club;
-    }
-
     private static void due(String what, Object got, Object want) {
         Check.due(what, got, want);
     }
 
     private static void promise34MeanCoins() {
         Check.thrown("34 nobody", ARITHMETIC, () -> new BarometerClub().meanCoins());
-        BarometerClub club = clubOf(0, 1, 2);
+        BarometerClub club = Clubs.of(0, 1, 2);
         due("34 all as many", club.meanCoins(), 50.0);
         club.wager(1, 900, 2);
         due("34 no whole number", club.meanCoins(), 148.0 / 3.0);
@@ -26,7 +18,7 @@ public final class AccountsTest {
     }
 
     private static void promise35TappedShare() {
-        BarometerClub club = clubOf(0, 1, 2, 3);
+        BarometerClub club = Clubs.of(0, 1, 2, 3);
         Check.thrown("35 nobody has wagered", ARITHMETIC, club::tappedShare);
         club.wager(0, 900, 2);
         due("35 nobody has tapped", club.tappedShare(), 0.0f);
@@ -43,7 +35,7 @@ public final class AccountsTest {
     }
 
     private static void promise36Account() {
-        BarometerClub club = clubOf(0, 1, 2, 9);
+        BarometerClub club = Clubs.of(0, 1, 2, 9);
         club.wager(0, 1000, 4);
         club.wager(1, 700, 3);
         club.tap(1);
@@ -92,7 +84,7 @@ public final class AccountsTest {
     }
 
     private static void promise37Kinds() {
-        BarometerClub club = clubOf(0, 5);
+        BarometerClub club = Clubs.of(0, 5);
         club.day(-20);
         club.bottle(0);
         club.wager(0, 980, 5);
@@ -128,7 +120,7 @@ public final class AccountsTest {
     }
 
     private static void promise37WhatStays() {
-        BarometerClub club = clubOf(0);
+        BarometerClub club = Clubs.of(0);
         club.append('r');
         club.line(0);
         Check.thrown("37 a refused call", UnsupportedOperationException.class, () -> club.join(0));

@@ -1,13 +1,5 @@
 /** Promises 1 to 11: a new object, and the calls that change the club. */
 public final class ActionsTest {
-    private static BarometerClub clubOf(int... heights) {
-        BarometerClub club = new BarometerClub();
-        for (int height : heights) {
-            club.join(height);
-        }
-        return club;
-    }
-
     private static void due(String what, Object got, Object want) {
         Check.due(what, got, want);
     }
@@ -23,7 +15,7 @@ public final class ActionsTest {
         }
         due("1 fault", club.faultPosition(), -1);
         Check.thrown("1 line is empty", IndexOutOfBoundsException.class, () -> club.character(0));
-        BarometerClub other = clubOf(3);
+        BarometerClub other = Clubs.of(3);
         due("1 objects are apart", club.account(0), 0);
         due("1 other", other.account(0), 1);
     }
@@ -53,7 +45,7 @@ public final class ActionsTest {
     }
 
     private static void promise3Leave() {
-        BarometerClub club = clubOf(4, 5, 6, 7);
+        BarometerClub club = Clubs.of(4, 5, 6, 7);
         club.move(1, 8);
         club.day(-20);
         club.bottle(2);
@@ -79,7 +71,7 @@ public final class ActionsTest {
         due("3 comes anew", club.join(7), 2);
         due("3 anew has no readings", club.memberOf(2, 6), 0);
         due("3 anew has no bottles", club.memberOf(2, 5), 0);
-        BarometerClub again = clubOf(0, 1);
+        BarometerClub again = Clubs.of(0, 1);
         again.day(-20);
         again.bottle(1);
         again.wager(1, 968, 2);
@@ -91,7 +83,7 @@ public final class ActionsTest {
     }
 
     private static void promise4Move() {
-        BarometerClub club = clubOf(0, 9, 5);
+        BarometerClub club = Clubs.of(0, 9, 5);
         due("4 up", club.move(0, 4), 42);
         due("4 down", club.move(1, 8), 48);
         due("4 height", club.memberOf(0, 1), 4);
@@ -119,7 +111,7 @@ public final class ActionsTest {
     }
 
     private static void promise5Exchange() {
-        BarometerClub club = clubOf(1, 8, 3);
+        BarometerClub club = Clubs.of(1, 8, 3);
         club.wager(0, 988, 2);
         due("5 apart", club.exchange(0, 1), 7);
         due("5 the one", club.memberOf(0, 1), 8);
@@ -136,7 +128,7 @@ public final class ActionsTest {
     }
 
     private static void promise6Wager() {
-        BarometerClub club = clubOf(0, 1, 2);
+        BarometerClub club = Clubs.of(0, 1, 2);
         due("6 pot", club.wager(0, 700, 1), 1);
         due("6 pot grows", club.wager(1, 1100, 9), 10);
         due("6 coins", club.memberOf(1, 0), 41);
@@ -150,7 +142,7 @@ public final class ActionsTest {
         Check.refused("6 stake above", club, 1, 0, 0, () -> club.wager(2, 900, 10));
         Check.refused("6 range before wagered", club, 1, 0, 0, () -> club.wager(1, 900, 10));
         Check.refused("6 wagered", club, 7, 1100, 0, () -> club.wager(1, 900, 9));
-        BarometerClub poor = clubOf(0, 9);
+        BarometerClub poor = Clubs.of(0, 9);
         poor.move(0, 8);
         poor.move(0, 0);
         poor.move(0, 7);
@@ -161,7 +153,7 @@ public final class ActionsTest {
     }
 
     private static void promise7Tap() {
-        BarometerClub club = clubOf(0, 1, 2, 3);
+        BarometerClub club = Clubs.of(0, 1, 2, 3);
         club.wager(0, 1000, 5);
         due("7 no change yet", club.tap(0), 0);
         due("7 coins", club.memberOf(0, 0), 44);
@@ -180,7 +172,7 @@ public final class ActionsTest {
         due("7 once until the reading", club.read(), 0);
         club.wager(0, 1000, 1);
         due("7 again behind the reading", club.tap(0), -1);
-        BarometerClub poor = clubOf(0, 9);
+        BarometerClub poor = Clubs.of(0, 9);
         poor.move(0, 8);
         poor.move(0, 0);
         poor.move(0, 7);
@@ -222,7 +214,7 @@ public final class ActionsTest {
     }
 
     private static void promise9Bottle() {
-        BarometerClub club = clubOf(0, 1);
+        BarometerClub club = Clubs.of(0, 1);
         Check.refused("9 nobody", club, 4, 2, 0, () -> club.bottle(2));
         Check.refused("9 no storm yet", club, 10, 0, 0, () -> club.bottle(0));
         club.day(7);
@@ -246,7 +238,7 @@ public final class ActionsTest {
     }
 
     private static void promise10LetOut() {
-        BarometerClub club = clubOf(0, 1);
+        BarometerClub club = Clubs.of(0, 1);
         Check.refused("10 nobody", club, 4, 2, 0, () -> club.letOut(-1));
         Check.refused("10 no bottle", club, 12, 0, 0, () -> club.letOut(0));
         club.day(-20);
@@ -272,7 +264,7 @@ public final class ActionsTest {
     }
 
     private static void promise11Read() {
-        BarometerClub club = clubOf(0, 1, 2, 3);
+        BarometerClub club = Clubs.of(0, 1, 2, 3);
         Check.refused("11 nobody has wagered", club, 14, 0, 0, () -> club.read());
         club.wager(0, 999, 3);
         club.wager(1, 989, 3);

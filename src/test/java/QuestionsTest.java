@@ -6,20 +6,12 @@ public final class QuestionsTest {
     private static final Class<IllegalArgumentException> ARGUMENT = IllegalArgumentException.class;
     private static final Class<NoSuchElementException> ELEMENT = NoSuchElementException.class;
 
-    private static BarometerClub clubOf(int... heights) {
-        BarometerClub club = new BarometerClub();
-        for (int height : heights) {
-            club.join(height);
-        }
-        return club;
-    }
-
     private static void due(String what, Object got, Object want) {
         Check.due(what, got, want);
     }
 
     private static void promise12MemberOf() {
-        BarometerClub club = clubOf(3, 7);
+        BarometerClub club = Clubs.of(3, 7);
         club.wager(1, 900, 6);
         club.read();
         club.day(-33);
@@ -42,7 +34,7 @@ public final class QuestionsTest {
     }
 
     private static void promises13And14Needle() {
-        BarometerClub club = clubOf(0, 9, 4);
+        BarometerClub club = Clubs.of(0, 9, 4);
         int[] shown = {1000, 892, 952};
         for (int member = 0; member < shown.length; member++) {
             due("13 needle", club.needle(member), shown[member]);
@@ -59,7 +51,7 @@ public final class QuestionsTest {
     }
 
     private static void promise15Off() {
-        BarometerClub club = clubOf(0, 9);
+        BarometerClub club = Clubs.of(0, 9);
         club.wager(0, 1100, 1);
         due("15 above", club.off(0), 100);
         Check.thrown("15 not wagered", ELEMENT, () -> club.off(1));
@@ -76,7 +68,7 @@ public final class QuestionsTest {
     }
 
     private static void promise16Owner() {
-        BarometerClub club = clubOf(0, 9, 4);
+        BarometerClub club = Clubs.of(0, 9, 4);
         due("16 lowest", club.owner(0), 0);
         due("16 highest", club.owner(9), 1);
         due("16 another", club.owner(4), 2);
@@ -89,7 +81,7 @@ public final class QuestionsTest {
     }
 
     private static void promises17To19Winners() {
-        BarometerClub club = clubOf(0, 1, 2, 3, 4, 5);
+        BarometerClub club = Clubs.of(0, 1, 2, 3, 4, 5);
         dueWinners("nobody has wagered", club, 0, 0);
         club.wager(1, 700, 9);
         dueWinners("one alone, far off", club, 2, 9);
@@ -106,14 +98,14 @@ public final class QuestionsTest {
         dueWinners("the one that did not tap", club, 2, 22);
         club.tap(1);
         dueWinners("all tapped", club, 0, 0);
-        BarometerClub far = clubOf(0);
+        BarometerClub far = Clubs.of(0);
         for (int day = 0; day < 3; day++) {
             far.day(30);
         }
         far.day(10);
         far.wager(0, 700, 1);
         dueWinners("400 off", far, 1, 1);
-        BarometerClub near = clubOf(0, 1, 2);
+        BarometerClub near = Clubs.of(0, 1, 2);
         near.wager(0, 1001, 1);
         near.wager(1, 988, 1);
         near.wager(2, 975, 1);
@@ -127,7 +119,7 @@ public final class QuestionsTest {
     }
 
     private static void promise20WouldWin() {
-        BarometerClub club = clubOf(0, 1);
+        BarometerClub club = Clubs.of(0, 1);
         due("20 nobody", club.wouldWin(0), 0);
         club.wager(0, 1000, 1);
         club.wager(1, 968, 1);
@@ -140,13 +132,13 @@ public final class QuestionsTest {
         Check.thrown("20 above", ARGUMENT, () -> club.wouldWin(41));
         due("20 pressure stays", club.weather(0), 1000);
         due("20 days stay", club.weather(3), 0);
-        BarometerClub low = clubOf(0, 1);
+        BarometerClub low = Clubs.of(0, 1);
         low.day(-40);
         low.day(-40);
         low.wager(0, 900, 1);
         low.wager(1, 880, 1);
         due("20 held at 900", low.wouldWin(-40), 1);
-        BarometerClub high = clubOf(0, 1);
+        BarometerClub high = Clubs.of(0, 1);
         high.day(40);
         high.day(40);
         high.wager(0, 1099, 1);
@@ -155,7 +147,7 @@ public final class QuestionsTest {
     }
 
     private static void promise21ChangeFor() {
-        BarometerClub club = clubOf(0, 1, 2);
+        BarometerClub club = Clubs.of(0, 1, 2);
         Check.thrown("21 nobody has wagered", ELEMENT, () -> club.changeFor(0));
         club.wager(0, 1000, 1);
         due("21 wins alone now", club.changeFor(0), 0);
@@ -171,11 +163,11 @@ public final class QuestionsTest {
         club.tap(1);
         due("21 left alone", club.changeFor(0), 0);
         Check.thrown("21 tapped, too", ELEMENT, () -> club.changeFor(1));
-        BarometerClub even = clubOf(0, 1);
+        BarometerClub even = Clubs.of(0, 1);
         even.wager(0, 1000, 1);
         even.wager(1, 988, 1);
         Check.thrown("21 never alone", ELEMENT, () -> even.changeFor(0));
-        BarometerClub sides = clubOf(0, 1, 2);
+        BarometerClub sides = Clubs.of(0, 1, 2);
         sides.wager(0, 1010, 1);
         sides.wager(1, 978, 1);
         sides.wager(2, 966, 1);
@@ -187,7 +179,7 @@ public final class QuestionsTest {
 
     /** Each of three would win alone within other changes: the nearest of them to 0 is due. */
     private static void dueWinsAloneBetween() {
-        BarometerClub club = clubOf(0, 1, 2);
+        BarometerClub club = Clubs.of(0, 1, 2);
         club.wager(0, 1001, 1);
         club.wager(1, 983, 1);
         club.wager(2, 963, 1);
@@ -197,25 +189,25 @@ public final class QuestionsTest {
         club.day(-20);
         due("21 the nearest above 0", club.changeFor(1), 12);
         due("21 the farthest above 0", club.changeFor(0), 19);
-        BarometerClub edge = clubOf(0, 1);
+        BarometerClub edge = Clubs.of(0, 1);
         edge.wager(0, 1000, 1);
         edge.wager(1, 988 - 79, 1);
         due("21 the lowest change", edge.changeFor(1), -40);
-        BarometerClub beyond = clubOf(0, 1);
+        BarometerClub beyond = Clubs.of(0, 1);
         beyond.wager(0, 1000, 1);
         beyond.wager(1, 988 - 80, 1);
         Check.thrown("21 as near behind -40", ELEMENT, () -> beyond.changeFor(1));
-        BarometerClub upper = clubOf(0, 1);
+        BarometerClub upper = Clubs.of(0, 1);
         upper.wager(0, 1000, 1);
         upper.wager(1, 988 + 79, 1);
         due("21 the highest change", upper.changeFor(1), 40);
-        BarometerClub held = clubOf(0, 1);
+        BarometerClub held = Clubs.of(0, 1);
         held.day(40);
         held.day(40);
         held.wager(0, 1079, 1);
         held.wager(1, 1100, 1);
         due("21 held below 1100", held.changeFor(1), 16);
-        BarometerClub stuck = clubOf(0, 1);
+        BarometerClub stuck = Clubs.of(0, 1);
         stuck.day(40);
         stuck.day(40);
         stuck.wager(0, 1091, 1);
@@ -229,7 +221,7 @@ public final class QuestionsTest {
     }
 
     private static void promise22BestGuess() {
-        BarometerClub club = clubOf(0, 9);
+        BarometerClub club = Clubs.of(0, 9);
         due("22 lowest height", club.bestGuess(0), 1000);
         due("22 highest height", club.bestGuess(1), 892);
         Check.thrown("22 nobody", INDEX, () -> club.bestGuess(2));
@@ -247,7 +239,7 @@ public final class QuestionsTest {
     }
 
     private static void promise23NearestFree() {
-        BarometerClub club = clubOf(4, 3, 0, 1, 2, 9);
+        BarometerClub club = Clubs.of(4, 3, 0, 1, 2, 9);
         due("23 above", club.nearestFree(0), 5);
         due("23 two away", club.nearestFree(1), 5);
         due("23 from the lowest", club.nearestFree(2), 5);
@@ -257,7 +249,7 @@ public final class QuestionsTest {
         due("23 nearest above", club.nearestFree(3), 3);
         Check.thrown("23 nobody", INDEX, () -> club.nearestFree(5));
         Check.thrown("23 below", INDEX, () -> club.nearestFree(-1));
-        BarometerClub poor = clubOf(0, 9);
+        BarometerClub poor = Clubs.of(0, 9);
         poor.move(0, 8);
         poor.move(0, 0);
         poor.move(0, 7);
@@ -268,7 +260,7 @@ public final class QuestionsTest {
         due("23 the other side", poor.nearestFree(0), 8);
         poor.join(8);
         Check.thrown("23 can pay for owned ones alone", ELEMENT, () -> poor.nearestFree(0));
-        BarometerClub between = clubOf(0, 1, 2);
+        BarometerClub between = Clubs.of(0, 1, 2);
         between.move(0, 9);
         between.move(0, 0);
         between.move(0, 5);
@@ -280,7 +272,7 @@ public final class QuestionsTest {
     }
 
     private static void promise24Ranked() {
-        BarometerClub club = clubOf(2, 7, 0, 5);
+        BarometerClub club = Clubs.of(2, 7, 0, 5);
         club.wager(1, 916, 3);
         club.wager(3, 700, 1);
         club.read();
@@ -294,7 +286,7 @@ public final class QuestionsTest {
         Check.thrown("24 measure first", ARGUMENT, () -> club.ranked(4, 9));
         Check.thrown("24 place below", ELEMENT, () -> club.ranked(0, -1));
         Check.thrown("24 place above", ELEMENT, () -> club.ranked(0, 4));
-        dueOrder("all as many", clubOf(5, 6, 7), 0, 0, 1, 2);
+        dueOrder("all as many", Clubs.of(5, 6, 7), 0, 0, 1, 2);
     }
 
     private static void dueOrder(String what, BarometerClub club, int measure, int... members) {
@@ -304,7 +296,7 @@ public final class QuestionsTest {
     }
 
     private static void promise25Weather() {
-        BarometerClub club = clubOf(0);
+        BarometerClub club = Clubs.of(0);
         dueWeather(club, 1000, 0, 0, 0, 0, 0);
         club.day(-25);
         dueWeather(club, 975, -25, 1, 1, 1, 0);
@@ -325,7 +317,7 @@ public final class QuestionsTest {
     }
 
     private static void promise26IsEven() {
-        BarometerClub club = clubOf(0, 1, 2);
+        BarometerClub club = Clubs.of(0, 1, 2);
         club.wager(0, 1000, 9);
         club.tap(0);
         club.wager(1, 988, 3);

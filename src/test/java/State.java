@@ -21,8 +21,12 @@ final class State {
 
     /** What can be undone, and the number of changes that can be undone. */
     static String ofClub(BarometerClub club) {
+        return ofAllThatCanBeUndone(club) + ", changes: " + club.account(9);
+    }
+
+    static String ofAllThatCanBeUndone(BarometerClub club) {
         StringBuilder told = new StringBuilder(Clubs.weather(club));
-        for (int what = 0; what <= 9; what++) {
+        for (int what = 0; what <= 8; what++) {
             told.append(", account ").append(what).append(": ").append(club.account(what));
         }
         for (int what = 0; what <= 6; what++) {

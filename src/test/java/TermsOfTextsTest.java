@@ -362,16 +362,31 @@ public final class TermsOfTextsTest {
             for (int height = 0; height < count; height++) {
                 club.join(height);
             }
-            for (int member : new int[] {count, -1, 6, Integer.MAX_VALUE, Integer.MIN_VALUE}) {
-                Check.refused("leave", club, 4, count, 0, () -> club.leave(member));
-                Check.refused("move", club, 4, count, 0, () -> club.move(member, 9));
-                Check.refused("exchange", club, 4, count, 0, () -> club.exchange(member, 0));
-                Check.refused("exchange with", club, 4, count, 0, () -> club.exchange(0, member));
-                Check.refused("wager", club, 4, count, 0, () -> club.wager(member, 900, 1));
-                Check.refused("tap", club, 4, count, 0, () -> club.tap(member));
-                Check.refused("bottle", club, 4, count, 0, () -> club.bottle(member));
-                Check.refused("letOut", club, 4, count, 0, () -> club.letOut(member));
+            dueNoSuchMember(club, count);
+        }
+    }
+
+    @Sentence(promise = 0, value = "4, there is no such member: how many there are;")
+    static void reason4BehindThoseWhoLeft() {
+        for (int count = 5; count >= 0; count--) {
+            BarometerClub club = Clubs.of(0, 1, 2, 3, 4, 5);
+            while (club.account(0) > count) {
+                club.leave(club.account(0) % 2 == 0 ? club.account(0) - 1 : 0);
             }
+            dueNoSuchMember(club, count);
+        }
+    }
+
+    private static void dueNoSuchMember(BarometerClub club, int count) {
+        for (int member : new int[] {count, -1, 6, Integer.MAX_VALUE, Integer.MIN_VALUE}) {
+            Check.refused("leave", club, 4, count, 0, () -> club.leave(member));
+            Check.refused("move", club, 4, count, 0, () -> club.move(member, 9));
+            Check.refused("exchange", club, 4, count, 0, () -> club.exchange(member, 0));
+            Check.refused("exchange with", club, 4, count, 0, () -> club.exchange(0, member));
+            Check.refused("wager", club, 4, count, 0, () -> club.wager(member, 900, 1));
+            Check.refused("tap", club, 4, count, 0, () -> club.tap(member));
+            Check.refused("bottle", club, 4, count, 0, () -> club.bottle(member));
+            Check.refused("letOut", club, 4, count, 0, () -> club.letOut(member));
         }
     }
 
@@ -513,57 +528,47 @@ public final class TermsOfTextsTest {
     @Sentence(promise = 0, value = "The reason is kept with the index of the command of a text, from 0, or 0 for "
             + "another call.")
     static void theIndexOfTheCommand() {
-        BarometerClub club = new BarometerClub();
         for (int index = 0; index < 15; index++) {
+            BarometerClub club = new BarometerClub();
             String text = "d+0;".repeat(index) + "x9";
             Check.refused(text, club, 4, 0, index, () -> Clubs.run(club, text));
+            Check.refused("another call", club, 4, 0, 0, () -> club.leave(9));
         }
-        Check.refused("another call", club, 4, 0, 0, () -> club.leave(9));
     }
 
     @Sentence(promise = 0, value = "What can be undone are the successful calls of join, leave, move, exchange, wager, "
             + "tap, day, bottle, letOut, read and commands.")
     static void elevenKindsOfCallsCanBeUndone() {
+        dueUndone("join", club -> club.join(9));
+        dueUndone("leave", club -> club.leave(0));
+        dueUndone("move", club -> club.move(0, 9));
+        dueUndone("exchange", club -> club.exchange(0, 3));
+        dueUndone("wager", club -> club.wager(0, 900, 1));
+        dueUndone("tap", club -> club.tap(3));
+        dueUndone("day", club -> club.day(0));
+        dueUndone("bottle", club -> club.bottle(0));
+        dueUndone("letOut", club -> club.letOut(3));
+        dueUndone("read", club -> club.read());
+        dueUndone("commands", club -> Clubs.run(club, "d+1;j9;r"));
+    }
+
+    private interface Change {
+        int on(BarometerClub club);
+    }
+
+    private static void dueUndone(String what, Change change) {
         BarometerClub club = Clubs.of(0, 1, 2, 3);
-        club.day(-20);
-        club.bottle(3);
+        Clubs.giveBottles(club, 3, 1);
         club.wager(3, 900, 1);
+        club.day(-20);
         club.save();
-        dueUndone("join", club, () -> club.join(9));
-        dueUndone("leave", club, () -> club.leave(0));
-        dueUndone("move", club, () -> club.move(0, 9));
-        dueUndone("exchange", club, () -> club.exchange(0, 3));
-        dueUndone("wager", club, () -> club.wager(0, 900, 1));
-        dueUndone("tap", club, () -> club.tap(3));
-        dueUndone("day", club, () -> club.day(0));
-        dueUndone("letOut", club, () -> club.letOut(3));
-        dueUndone("read", club, () -> club.read());
-        dueUndone("commands", club, () -> Clubs.run(club, "d+1;j9;r"));
-        BarometerClub stormy = Clubs.of(0);
-        stormy.day(-20);
-        stormy.save();
-        dueUndone("bottle", stormy, () -> stormy.bottle(0));
-    }
-
-    private static String told(BarometerClub club) {
-        StringBuilder numbers = new StringBuilder(Clubs.weather(club));
-        for (int what = 0; what <= 6; what++) {
-            numbers.append(" | ").append(Clubs.all(club, what));
-        }
-        for (int what = 0; what <= 9; what++) {
-            numbers.append(" | ").append(club.account(what));
-        }
-        return numbers.toString();
-    }
-
-    private static void dueUndone(String what, BarometerClub club, Check.Call call) {
         club.restore();
-        String before = told(club);
-        due(what + " succeeds", Check.answer(call) instanceof Integer, true);
-        due(what + " changes something", told(club).equals(before), false);
+        String before = State.ofClub(club);
+        due(what + " succeeds", Check.answer(() -> change.on(club)) instanceof Integer, true);
+        due(what + " changes something", State.ofClub(club).equals(before), false);
         due(what + " can be undone", club.account(9), 1);
         due(what + " is undone", club.undo(), 0);
-        due("what there was before " + what, told(club), before);
+        due("what there was before " + what, State.ofClub(club), before);
     }
 
     @Sentence(promise = 0, value = "What can be undone are the successful calls of join, leave, move, exchange, wager, "
@@ -628,6 +633,23 @@ public final class TermsOfTextsTest {
     }
 
     @Sentence(promise = 0, value = "What there was before each of the latest 8 is kept; restore forgets it.")
+    static void eightBehindRefusedCalls() {
+        for (int changes = 8; changes <= 20; changes++) {
+            BarometerClub club = new BarometerClub();
+            for (int day = 1; day <= changes; day++) {
+                club.day(day % 2 == 0 ? -day : day);
+            }
+            Check.refused("a call", club, 1, 0, 0, () -> club.day(41));
+            Check.refused("a text", club, 14, 0, 1, () -> Clubs.run(club, "d+1;r"));
+            Check.thrown("a fault", ARGUMENT, () -> Clubs.run(club, "d+1;"));
+            for (int back = 1; back <= 8; back++) {
+                due("can still be undone", club.undo(), 8 - back);
+                due("days", club.weather(3), changes - back);
+            }
+        }
+    }
+
+    @Sentence(promise = 0, value = "What there was before each of the latest 8 is kept; restore forgets it.")
     static void restoreForgetsIt() {
         BarometerClub club = new BarometerClub();
         club.save();
@@ -682,7 +704,7 @@ public final class TermsOfTextsTest {
         Check.thrown("also behind a fault", ARGUMENT, () -> Clubs.run(club, "r;"));
         due("the buffer again", club.account(10), 0);
         due("the fault position is that of the latest call", club.faultPosition(), 2);
-        due("all else", told(club), told(Clubs.of(3)));
+        due("all else", State.ofClub(club), State.ofClub(Clubs.of(3)));
     }
 
     @Sentence(promise = 0, value = "If several conditions of a method are fulfilled, the one that is listed first "

@@ -100,6 +100,36 @@ public final class TermsTest {
         due("numbered from 0 again", club.join(3), 0);
     }
 
+    @Sentence(promise = 0, value = "At most 6 members are there, numbered from 0; when one leaves, the numbers of the "
+            + "later ones become 1 less.")
+    static void nothingIsLeftUnderTheGreatestNumber() {
+        for (int count = 2; count <= 6; count++) {
+            BarometerClub club = new BarometerClub();
+            for (int height = 0; height < count; height++) {
+                club.join(height);
+            }
+            int last = count - 1;
+            Clubs.giveBottles(club, last, 3);
+            club.wager(last, 900, 4);
+            club.leave(0);
+            int set = 1 << last - 1;
+            due("who would win", club.winners(), set);
+            due("who would win again", club.winnersAgain(), set);
+            due("who would win behind a day", club.wouldWin(1), set);
+            due("share", club.share(), 4);
+            due("who have wagered", club.account(3), 1);
+            due("coins of all", club.account(1), 50 * last - 4);
+            due("heights", club.owner(last) * 10 + club.account(0), 10 * (last - 1) + last);
+            Check.refused("a bottle of nobody", club, 4, last, 0, () -> club.letOut(last));
+            Check.refused("a tap of nobody", club, 4, last, 0, () -> club.tap(last));
+            club.tap(last - 1);
+            due("all of the one has tapped", club.tappedShare(), 1.0f);
+            due("who comes has not", club.join(0) * 10 + club.memberOf(last, 4) + club.memberOf(last, 5), last * 10);
+            club.wager(last, 900, 1);
+            due("a half has tapped", club.tappedShare(), 0.5f);
+        }
+    }
+
     @Sentence(promise = 0, value = "Each comes with 50 coins, and owns a height from 0 to 9, which nobody else owns; "
             + "who leaves takes all own coins along.")
     static void heightsFromZeroToNine() {

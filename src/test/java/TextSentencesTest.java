@@ -107,8 +107,6 @@ public final class TextSentencesTest {
     @Sentence(promise = 28, value = "Throws `UnsupportedOperationException` if a command is refused; the reason is "
             + "kept")
     static void commandsRefused() {
-        BarometerClub club = Clubs.of(0, 1, 2, 3, 4);
-        Clubs.giveBottles(club, 4, 3);
         String[] texts = {"1 0 0:w0=0000/1", "1 0 1:j5;d+99", "2 6 1:j5;j6", "3 0 1:x0;j1", "4 4 1:x0;x4",
             "4 6 1:j9;t6", "5 2 5:m0>9;m0>5;m0>9;m0>5;m0>9;m0>8", "6 3 0:s3&3", "7 888 1:w3=888/8;x3",
             "7 888 1:w3=888/8;w3=900/1", "8 0 2:w3=888/8;r;t3", "9 8 2:w3=888/8;t3;t3", "10 -19 1:d-19;b0",
@@ -116,6 +114,8 @@ public final class TextSentencesTest {
             "14 18 1:m0>9;r"};
         for (String told : texts) {
             String text = told.substring(told.indexOf(':') + 1);
+            BarometerClub club = Clubs.of(0, 1, 2, 3, 4);
+            Clubs.giveBottles(club, 4, 3);
             Check.thrown(text, UnsupportedOperationException.class, () -> Clubs.run(club, text));
             String reason = club.reason(0) + " " + club.reason(1) + " " + club.reason(2);
             due("the reason of " + text, reason + ":" + text, told);

@@ -6,27 +6,8 @@ public final class TextsTest {
     private static final Class<IllegalArgumentException> ARGUMENT = IllegalArgumentException.class;
     private static final Class<NoSuchElementException> ELEMENT = NoSuchElementException.class;
 
-    private static BarometerClub clubOf(int... heights) {
-        BarometerClub club = new BarometerClub();
-        for (int height : heights) {
-            club.join(height);
-        }
-        return club;
-    }
-
     private static void due(String what, Object got, Object want) {
         Check.due(what, got, want);
-    }
-
-    private static void type(BarometerClub club, String text) {
-        for (char character : text.toCharArray()) {
-            club.append(character);
-        }
-    }
-
-    private static int run(BarometerClub club, String text) {
-        type(club, text);
-        return club.commands();
     }
 
     private static String written(BarometerClub club, int length) {
@@ -53,10 +34,10 @@ public final class TextsTest {
 
     private static void promise28Commands() {
         BarometerClub club = new BarometerClub();
-        due("28 joins", run(club, "j3;j0;j5;j9"), 4);
-        due("28 move and exchange", run(club, "m1>1;s0&2"), 2);
+        due("28 joins", Clubs.run(club, "j3;j0;j5;j9"), 4);
+        due("28 move and exchange", Clubs.run(club, "m1>1;s0&2"), 2);
         due("28 moved", club.memberOf(1, 1) * 100 + club.memberOf(0, 1) * 10 + club.memberOf(2, 1), 153);
-        due("28 wagers, tap, days, bottles", run(club, "w0=0940/3;w1=700/9;t1;d-25;b2;d+5;o2;x3"), 8);
+        due("28 wagers, tap, days, bottles", Clubs.run(club, "w0=0940/3;w1=700/9;t1;d-25;b2;d+5;o2;x3"), 8);
         due("28 guess of four digits", club.memberOf(0, 2), 940);
         due("28 guess of three digits", club.memberOf(1, 2), 700);
         due("28 stake", club.memberOf(1, 3), 9);
@@ -65,54 +46,54 @@ public final class TextsTest {
         due("28 storms", club.weather(4) * 10 + club.weather(5), 11);
         due("28 left", club.account(0), 3);
         due("28 one change each", club.account(9), 3);
-        due("28 reads", run(club, "r"), 1);
+        due("28 reads", Clubs.run(club, "r"), 1);
         due("28 won", club.memberOf(0, 6), 1);
         due("28 empty afterwards", club.account(10), 0);
-        due("28 a day of two digits with 0 first", run(club, "d+07") * 1000 + club.weather(1), 1007);
-        due("28 a day of one digit", run(club, "d-8") * 1000 + club.weather(1), 992);
-        due("28 a day with -0", run(club, "d-0") * 1000 + club.weather(1), 1000);
-        due("28 four digits above", run(club, "w0=1100/1"), 1);
-        due("28 three more, undone as one", run(club, "x1;j2;d+1"), 3);
+        due("28 a day of two digits with 0 first", Clubs.run(club, "d+07") * 1000 + club.weather(1), 1007);
+        due("28 a day of one digit", Clubs.run(club, "d-8") * 1000 + club.weather(1), 992);
+        due("28 a day with -0", Clubs.run(club, "d-0") * 1000 + club.weather(1), 1000);
+        due("28 four digits above", Clubs.run(club, "w0=1100/1"), 1);
+        due("28 three more, undone as one", Clubs.run(club, "x1;j2;d+1"), 3);
         club.undo();
         due("28 undone", club.account(0) * 10 + club.memberOf(1, 1), 31);
-        due("28 as many as fit", run(club, "d+0;d+0;d+0;d+0;d+0;d+0;d+0;d+0;d+0;d+0;d+0;d+0;d+0;d+0;d+0"), 15);
+        due("28 as many as fit", Clubs.run(club, "d+0;d+0;d+0;d+0;d+0;d+0;d+0;d+0;d+0;d+0;d+0;d+0;d+0;d+0;d+0"), 15);
         due("28 one change again", club.account(9), 8);
     }
 
     private static void promise28Refused() {
-        BarometerClub club = clubOf(3);
-        Check.refused("28 second", club, 3, 1, 1, () -> run(club, "j5;j5;j6"));
+        BarometerClub club = Clubs.of(3);
+        Check.refused("28 second", club, 3, 1, 1, () -> Clubs.run(club, "j5;j5;j6"));
         due("28 none is carried out", club.account(0), 1);
         due("28 nothing brought", club.account(7), 50);
         due("28 empty though refused", club.account(10), 0);
         due("28 no fault", club.faultPosition(), -1);
         due("28 refused can't be undone", club.account(9), 1);
-        Check.refused("28 as many as there are then", club, 4, 2, 2, () -> run(club, "d+1;j5;x2"));
+        Check.refused("28 as many as there are then", club, 4, 2, 2, () -> Clubs.run(club, "d+1;j5;x2"));
         due("28 the day is taken back", club.weather(0) + club.weather(3), 1000);
-        Check.refused("28 first", club, 4, 1, 0, () -> run(club, "t9"));
-        Check.refused("28 change", club, 1, 0, 1, () -> run(club, "d+40;d-41"));
-        Check.refused("28 guess", club, 1, 0, 0, () -> run(club, "w0=699/1"));
-        Check.refused("28 greatest guess", club, 1, 0, 0, () -> run(club, "w0=9999/1"));
-        Check.refused("28 stake", club, 1, 0, 0, () -> run(club, "w0=700/0"));
-        Check.refused("28 pressure", club, 13, 1120, 3, () -> run(club, "d+30;d+30;d+30;d+30"));
-        Check.refused("28 read", club, 14, 0, 2, () -> run(club, "w0=900/1;r;r"));
-        Check.refused("28 move", club, 3, 0, 0, () -> run(club, "m0>3"));
-        Check.refused("28 exchange", club, 6, 0, 0, () -> run(club, "s0&0"));
-        Check.refused("28 bottle", club, 10, 3, 1, () -> run(club, "d+3;b0"));
-        Check.refused("28 letOut", club, 12, 0, 0, () -> run(club, "o0"));
+        Check.refused("28 first", club, 4, 1, 0, () -> Clubs.run(club, "t9"));
+        Check.refused("28 change", club, 1, 0, 1, () -> Clubs.run(club, "d+40;d-41"));
+        Check.refused("28 guess", club, 1, 0, 0, () -> Clubs.run(club, "w0=699/1"));
+        Check.refused("28 greatest guess", club, 1, 0, 0, () -> Clubs.run(club, "w0=9999/1"));
+        Check.refused("28 stake", club, 1, 0, 0, () -> Clubs.run(club, "w0=700/0"));
+        Check.refused("28 pressure", club, 13, 1120, 3, () -> Clubs.run(club, "d+30;d+30;d+30;d+30"));
+        Check.refused("28 read", club, 14, 0, 2, () -> Clubs.run(club, "w0=900/1;r;r"));
+        Check.refused("28 move", club, 3, 0, 0, () -> Clubs.run(club, "m0>3"));
+        Check.refused("28 exchange", club, 6, 0, 0, () -> Clubs.run(club, "s0&0"));
+        Check.refused("28 bottle", club, 10, 3, 1, () -> Clubs.run(club, "d+3;b0"));
+        Check.refused("28 letOut", club, 12, 0, 0, () -> Clubs.run(club, "o0"));
         due("28 nothing but join", club.undo(), 0);
     }
 
     private static void dueFault(String text, int position) {
-        BarometerClub club = clubOf(3, 4);
-        run(club, "d+0");
-        type(club, text);
+        BarometerClub club = Clubs.of(3, 4);
+        Clubs.run(club, "d+0");
+        Clubs.type(club, text);
         Check.thrown("28 fault of " + text, ARGUMENT, club::commands);
         due("29 fault of " + text, club.faultPosition(), position);
         due("28 empty behind " + text, club.account(10), 0);
         due("28 nothing done by " + text, club.account(9), 3);
         Check.thrown("28 no reason by " + text, ELEMENT, () -> club.reason(0));
-        due("28 a text behind " + text, run(club, "d+1"), 1);
+        due("28 a text behind " + text, Clubs.run(club, "d+1"), 1);
         due("29 none any more", club.faultPosition(), -1);
     }
 
@@ -138,16 +119,16 @@ public final class TextsTest {
         club.join(0);
         club.undo();
         due("29 stays behind undo", club.faultPosition(), 0);
-        Check.thrown("29 refused", UnsupportedOperationException.class, () -> run(club, "r"));
+        Check.thrown("29 refused", UnsupportedOperationException.class, () -> Clubs.run(club, "r"));
         due("29 no fault, though refused", club.faultPosition(), -1);
     }
 
     private static void promise30Reason() {
-        BarometerClub club = clubOf(0);
+        BarometerClub club = Clubs.of(0);
         Check.thrown("30 nothing was refused", ELEMENT, () -> club.reason(0));
         Check.thrown("30 what first", ARGUMENT, () -> club.reason(3));
         Check.thrown("30 what below", ARGUMENT, () -> club.reason(-1));
-        Check.refused("30 of a text", club, 4, 1, 1, () -> run(club, "d+0;x1"));
+        Check.refused("30 of a text", club, 4, 1, 1, () -> Clubs.run(club, "d+0;x1"));
         Check.refused("30 of a call", club, 3, 0, 0, () -> club.join(0));
         club.day(3);
         club.undo();
@@ -160,7 +141,7 @@ public final class TextsTest {
     }
 
     private static void promise31Line() {
-        BarometerClub club = clubOf(3, 7);
+        BarometerClub club = Clubs.of(3, 7);
         due("31 coins and height", written(club, club.line(0)), "50@3");
         club.wager(0, 964, 3);
         due("31 wagered", written(club, club.line(0)), "47@3=964/3");
@@ -176,7 +157,7 @@ public final class TextsTest {
         due("31 the line stays", written(club, 4), "54@7");
         club.undo();
         due("31 stays behind undo", written(club, 4), "54@7");
-        BarometerClub poor = clubOf(0, 9);
+        BarometerClub poor = Clubs.of(0, 9);
         poor.move(0, 8);
         poor.move(0, 0);
         poor.move(0, 7);
@@ -199,12 +180,12 @@ public final class TextsTest {
         club.move(0, 1);
         due("32 in place of the line before", written(club, club.line(0)), "48@1");
         due("32 two", written(club, club.board()), ".0..1.....");
-        BarometerClub full = clubOf(9, 8, 7, 6, 5, 4);
+        BarometerClub full = Clubs.of(9, 8, 7, 6, 5, 4);
         due("32 full", written(full, full.board()), "....543210");
     }
 
     private static void promise33Character() {
-        BarometerClub club = clubOf(5);
+        BarometerClub club = Clubs.of(5);
         Check.thrown("33 empty at first", INDEX, () -> club.character(0));
         club.line(0);
         due("33 first", club.character(0), '5');
