@@ -1,6 +1,10 @@
 import java.io.IOException;
 import java.nio.file.Files;
 import java.nio.file.Path;
+import java.util.Map;
+import java.util.Set;
+import java.util.TreeMap;
+import java.util.TreeSet;
 import java.util.regex.Matcher;
 import java.util.regex.Pattern;
 
@@ -30,19 +34,79 @@ public final class LanguageTest {
         }
     }
 
-    private static void checkMethodLengths(String source) {
-        int start = 0;
-        int line = 0;
-        for (String text : source.split("\n")) {
-            line++;
-            if (text.matches("    (    )?(?!private static final class|/)\\S.*\\) (throws .*)?\\{")) {
-                start = line;
-            }
-            if (text.matches("    (    )?\\}") && start > 0) {
-                Check.due("the method from line " + start + " is short", line - start <= 60, true);
-                start = 0;
+    /** A method from its head to its end; one that bears the name of another counts as one with it. */
+    private static final class Method {
+        private static final Pattern HEAD = Pattern.compile("( {4}| {8})(?=[a-zA-Z])(?!.*\\bclass\\b)"
+                + "(?!(?:if|for|while|switch|else|return|do)\\b)[^(=]*?(\\w+)\\(([^()]*)\\) (?:throws .*)?\\{");
+        private static final Pattern CALL = Pattern.compile("(?<!new )\\b(\\w+)\\(");
+
+        private final Set<String> calls = new TreeSet<>();
+        private int depth = 0;
+    }
+
+    private static void checkMethods(String code) {
+        Map<String, Method> methods = new TreeMap<>();
+        String[] lines = code.split("\n");
+        for (int line = 0; line < lines.length; line++) {
+            Matcher head = Method.HEAD.matcher(lines[line]);
+            if (head.matches()) {
+                String name = head.group(2);
+                int end = endOf(lines, line, head.group(1) + "}");
+                Check.due(name + " is short", end - line <= 60, true);
+                Check.due(name + " takes seven or fewer", head.group(3).split(",").length <= 7, true);
+                addCalls(methods.computeIfAbsent(name, key -> new Method()), lines, line + 1, end);
             }
         }
+        Check.due("the methods are found", methods.size() > 100, true);
+        for (String name : methods.keySet()) {
+            Check.due(name + " goes at most eight deep, itself counted", depthOf(name, methods, 1) <= 8, true);
+        }
+    }
+
+    private static void checkNames(String code) {
+        Set<String> hidden = new TreeSet<>();
+        Matcher head = Pattern.compile("(?m)^ +private [^(=;]*?(\\w+)\\(").matcher(code);
+        while (head.find()) {
+            hidden.add(head.group(1));
+        }
+        Check.due("private methods are found", hidden.size() > 30, true);
+        Matcher open = Pattern.compile("(?m)^    public [^(=;]*?(\\w+)\\(").matcher(code);
+        while (open.find()) {
+            Check.due("a private method bears the name of " + open.group(1), hidden.contains(open.group(1)), false);
+        }
+    }
+
+    private static int endOf(String[] lines, int head, String last) {
+        int end = head;
+        while (end + 1 < lines.length && !lines[end].equals(last)) {
+            end++;
+        }
+        return end;
+    }
+
+    private static void addCalls(Method method, String[] lines, int from, int to) {
+        for (int line = from; line < to; line++) {
+            Matcher call = Method.CALL.matcher(lines[line]);
+            while (call.find()) {
+                method.calls.add(call.group(1));
+            }
+        }
+    }
+
+    /** How deep calls go from the method on; recursion, which would not end here, goes far too deep. */
+    private static int depthOf(String name, Map<String, Method> methods, int open) {
+        Method method = methods.get(name);
+        if (method == null || open > 20) {
+            return open > 20 ? open : 0;
+        }
+        if (method.depth == 0) {
+            int deepest = 0;
+            for (String called : method.calls) {
+                deepest = Math.max(deepest, depthOf(called, methods, open + 1));
+            }
+            method.depth = deepest + 1;
+        }
+        return method.depth;
     }
 
     public static void main(String[] args) throws IOException {
@@ -57,7 +121,8 @@ public final class LanguageTest {
         Check.due("ASCII alone", source.chars().allMatch(sign -> sign < 128), true);
         Check.due("some twelve classes", code.split("\\bclass ").length <= 13, true);
         checkThrows(code);
-        checkMethodLengths(source);
+        checkMethods(code);
+        checkNames(code);
         Check.end();
     }
 }
