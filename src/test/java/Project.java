@@ -45,6 +45,11 @@ final class Project {
                 root.resolve(file).toFile().setExecutable(isExecutable), true);
     }
 
+    /** The whole path, as a program's path that is not whole could be looked for in this project instead. */
+    String pathOf(String file) {
+        return root.resolve(file).toAbsolutePath().normalize().toString();
+    }
+
     /** Runs the command at the root of the project, and returns its exit code. */
     int run(String... command) throws IOException, InterruptedException {
         Path output = root.resolveSibling("output");

@@ -2,6 +2,7 @@ import java.io.IOException;
 
 /** The script .ci/run runs every test, and fails if one fails: tried on projects with small tests. */
 public final class RunTest {
+    private static final String SCRIPT = ".ci/run";
     private static final String MAIN = "src/main/java/BarometerClub.java";
     private static final String CLASS = "public final class BarometerClub { }";
     private static final String SHARED = "../shared/tests/";
@@ -28,7 +29,7 @@ public final class RunTest {
     /** A project with two tests of its own and two that are shared, all of which pass. */
     private static Project passing(String name) throws IOException {
         Project project = new Project(name);
-        project.copyScript(".ci/run");
+        project.copyScript(SCRIPT);
         project.write(MAIN, CLASS);
         for (String file : ALL_TESTS) {
             project.write(file + ".java", test(nameOf(file), 0));
@@ -37,7 +38,7 @@ public final class RunTest {
     }
 
     private static void dueFailure(String what, Project project) throws IOException, InterruptedException {
-        project.dueExit(what, 1, ".ci/run");
+        project.dueExit(what, 1, project.pathOf(SCRIPT));
         Check.due(what + ": all passed", project.printed().contains(ALL_PASSED), false);
     }
 
@@ -50,10 +51,10 @@ public final class RunTest {
 
     private static void passesIfAllPass() throws IOException, InterruptedException {
         Project project = passing("passing");
-        project.dueExit("all pass", 0, ".ci/run");
+        project.dueExit("all pass", 0, project.pathOf(SCRIPT));
         dueAllRun("all pass", project);
         Check.due("all pass: it says so", project.printed().contains(ALL_PASSED), true);
-        project.dueExit("all pass again", 0, ".ci/run");
+        project.dueExit("all pass again", 0, project.pathOf(SCRIPT));
     }
 
     private static void failsIfOneFails() throws IOException, InterruptedException {
